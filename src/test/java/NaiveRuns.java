@@ -6,7 +6,7 @@ import java.util.Random;
 
 /** Long runs of calls, drawn from fixed seeds, on LoanBook and on NaiveBook: each answer must be the same. */
 public final class NaiveRuns {
-  private static final int RUNS = 400, CALLS = 512;
+  private static final int RUNS = 1500, CALLS = 512;
 
   private final Random random;
   private final LoanBook book = new LoanBook();
@@ -35,7 +35,8 @@ public final class NaiveRuns {
   }
 
   private void go() throws Exception {
-    int style = random.nextInt(4);
+    int style = random.nextInt(5);
+    for (int loans = random.nextInt(4); loans > 0; loans--) call("loan", (long) among(1, random.nextBoolean() ? 5_000_000 : 400), among(0, 5000), among(0, 3), kmn());
     while (told.size() < CALLS - 125 && !wrong) {
       if (random.nextInt(12) == 0) text();
       else if (random.nextInt(10) == 0) tellSchedule();
@@ -51,6 +52,7 @@ public final class NaiveRuns {
     if (n == 2 && style != 1) return "pay";
     if (n == 3 && style < 3) return "loan";
     if (n == 4) return random.nextBoolean() ? "reset" : "rule";
+    if (n == 5 && style == 4) return oneOf(List.of("would", "sooner", "image", "back"));
     return CALLABLE.get(random.nextInt(CALLABLE.size())).getName();
   }
 
@@ -85,9 +87,9 @@ public final class NaiveRuns {
     return random.nextBoolean() ? among(1, 100_000_000) : among(1, 9000);
   }
 
-  private long amount() {
-    if (random.nextInt(8) == 0) return oneOf(List.of(0L, 1L, 1_000_000_000L, 1_000_000_001L, -1L, Long.MAX_VALUE, Long.MIN_VALUE));
-    int loan = random.nextInt(4);
+  /** Mostly about what the LOAN owes, so that each part of a payment is cut at times. */
+  private long amount(int loan) {
+    if (random.nextInt(12) == 0) return oneOf(List.of(0L, 1L, 1_000_000_000L, 1_000_000_001L, -1L, Long.MAX_VALUE, Long.MIN_VALUE));
     long owed = book.sum(loan, 3), balance = book.sum(loan, 1);
     return switch (random.nextInt(6)) {
       case 0 -> owed;
@@ -134,7 +136,7 @@ public final class NaiveRuns {
       case "interest" -> { int d = day(), e = random.nextBoolean() ? day() : Math.max(-1, d) + among(-1, 500); yield new Object[] {lent(), rate(), what(3), d, e}; }
       case "loan" -> new Object[] {lent(), rate(), what(3), kmn()};
       case "days" -> new Object[] {n()};
-      case "pay", "sooner" -> new Object[] {loan(), amount()};
+      case "pay", "sooner" -> { int loan = loan(); yield new Object[] {loan, amount(loan)}; }
       case "reset" -> new Object[] {loan(), rate()};
       case "rule" -> random.nextBoolean() ? new Object[] {0, random.nextBoolean() ? among(-1, 40) : among(0, 91)} : new Object[] {what(1), oneOf(List.of(0, 1, 10000, 10001, -1, 700))};
       case "writeOff" -> new Object[] {random.nextInt(3) == 0 ? loan() : 6};
@@ -146,7 +148,7 @@ public final class NaiveRuns {
       case "value", "duration" -> new Object[] {loan(), rateBits()};
       case "yieldOf", "near" -> new Object[] {loan(), price()};
       case "behind" -> new Object[] {among(-1, 60)};
-      case "would" -> new Object[] {loan(), amount(), what(5)};
+      case "would" -> { int loan = loan(); yield new Object[] {loan, amount(loan), what(5)}; }
       case "judge" -> new Object[] {holder(), loan()};
       case "feed" -> new Object[] {among(-1, 256)};
       case "hold" -> new Object[] {holder(), loan(), among(-2, 3)};
@@ -162,7 +164,7 @@ public final class NaiveRuns {
     return switch (random.nextInt(9)) {
       case 0, 1 -> "l " + Math.max(0, Math.min(999_999_999L, lent())) + " " + among(0, 5001) + " " + among(0, random.nextInt(9) == 0 ? 4 : 3)
           + " " + among(0, random.nextInt(9) == 0 ? 3 : 2) + " " + (random.nextInt(9) == 0 ? among(0, 1061) : among(1, 12)) + " " + (random.nextInt(9) == 0 ? among(0, 10) : among(0, 1));
-      case 2 -> "p " + among(0, 3) + " " + Math.max(0, Math.min(999_999_999L, amount()));
+      case 2 -> { int loan = among(0, 3); yield "p " + loan + " " + Math.max(0, Math.min(999_999_999L, amount(loan))); }
       case 3 -> "r " + among(0, 3) + " " + among(0, 5001);
       case 4, 5 -> "d " + (random.nextInt(9) == 0 ? among(0, 4001) : among(1, 60));
       case 6 -> "w " + among(0, 3);

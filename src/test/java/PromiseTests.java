@@ -33,13 +33,13 @@ public final class PromiseTests {
     promise = 19; duration();
     promise = 20; behind();
     promise = 21; settles();
-    promise = 22; would();
+    promise = 22; would(); thoughtByEachCount();
     promise = 23; sooner();
     promise = 24; judge();
     promise = 25; feed();
     promise = 26; scriptForm(); scriptDone(); scriptRefused();
     promise = 27; image();
-    promise = 28; back();
+    promise = 28; back(); backToTheLastPeriod();
     promise = 29; hold();
     promise = 30; row();
     promise = 31; put();
@@ -526,6 +526,10 @@ public final class PromiseTests {
       due("yield by " + price, x.yieldOf(0, price), bits(yieldBy(price)));
     due("all at par: some 1 of a hundred", Math.round(Double.longBitsToDouble(x.yieldOf(0, 100000)) * 100000), 1000);
     due("as much as comes: 0", x.yieldOf(0, 102007), 0);
+    LoanBook half = new LoanBook();
+    half.loan(150, 0, 0, 1);
+    due("VALUE by 0.5 is the price, not above it", half.yieldOf(0, 100), bits(0.5 - Math.pow(2, -50)));
+    due("a price a cent lower", half.yieldOf(0, 99) > bits(0.5) ? 1 : 0, 1);
     for (long price : new long[] {0, -1, Long.MIN_VALUE}) due("price " + price, x.yieldOf(0, price), -1);
     for (int loan : new int[] {-1, 1, 8}) due("loan " + loan, x.yieldOf(loan, 1), -1);
   }
@@ -619,6 +623,9 @@ public final class PromiseTests {
     due("LOWER", three(100).sooner(0, 50000), 0);
     due("BULLET", three(2000).sooner(0, 50000), 0);
     due("BULLET whole", three(2000).sooner(0, 100000), 3);
+    LoanBook later = new LoanBook();
+    later.loan(9, 0, 0, 104);
+    due("9 by 3 goes in three, 8 by 2 in four: 0 at least", later.sooner(0, 1), 0);
     for (long amount : new long[] {0, -1, 1000000001L, Long.MIN_VALUE, Long.MAX_VALUE}) due("amount " + amount, x.sooner(0, amount), BAD);
     for (int loan : new int[] {-1, 1, 8}) due("loan " + loan, x.sooner(loan, 1), BAD);
   }
@@ -801,6 +808,46 @@ public final class PromiseTests {
     due("three", x.count(7), 3);
     x.loan(7, 7, 0, 1);
     due("still nothing", x.tells(1, 0), -11);
+    for (int h = 0; h < 6; h++) x.hold(h, 1, -1);
+    due("six of a LOAN", x.count(7), 6);
+    x.back();
+    due("none", x.count(7), 0);
+  }
+
+  private static void backToTheLastPeriod() {
+    LoanBook x = new LoanBook();
+    x.loan(60000, 0, 2, 1060);
+    x.days(x.settles(0) + 10);
+    x.image();
+    long owed = x.sum(0, 3);
+    due("OWED", owed, 60000 + 60 * 500);
+    due("the last BILL's FEE", x.bill(0, 59, 3), 500);
+    for (int what = 0; what < 3; what++) due("in thought " + what, x.would(0, owed, what), new long[] {30000, 0, 60000}[what]);
+    x.writeOff(0);
+    x.back();
+    due("OWED", x.sum(0, 3), owed);
+    due("the last BILL", x.bill(0, 59, 2), 1000);
+    x.pay(0, owed - 1000);
+    x.image();
+    x.rule(0, 11);
+    x.days(1);
+    x.pay(0, 1000);
+    x.back();
+    x.rule(0, 11);
+    x.days(1);
+    due("it had its FEE", x.sum(0, 3), 1000);
+  }
+
+  private static void thoughtByEachCount() {
+    for (int count = 0; count < 4; count++) {
+      LoanBook x = new LoanBook();
+      x.loan(5000000, 4000, count, 160);
+      long would = x.would(0, 1000000, 5), last = x.would(0, 4999999, 5);
+      x.pay(0, 1000000);
+      due("LEVEL by COUNT " + count, would, x.sum(0, 2));
+      x.pay(0, 3999999);
+      due("LEVEL of a cent", last, x.sum(0, 2));
+    }
   }
 
   private static void hold() {
