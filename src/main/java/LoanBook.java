@@ -374,9 +374,27 @@ public final class LoanBook {
 
     public int script() {
         int fault = tape.placeOfFault();
-        int answer = fault == Tape.NO_FAULT ? doLines() : FAULT_OF_FORM - fault;
+        if (fault != Tape.NO_FAULT) {
+            tape.length = 0;
+            return FAULT_OF_FORM - fault;
+        }
+        ahead.copyFrom(book);
+        tape.place = 0;
+        int lines = 0;
+        boolean isRefused = false;
+        while (lines < MOST_BYTES && !isRefused && tape.readLine()) {
+            isRefused = doLine() < 0;
+            if (!isRefused) {
+                lines++;
+                tape.place++;
+            }
+        }
         tape.length = 0;
-        return answer;
+        if (isRefused) {
+            book.copyFrom(ahead);
+            return LINE_REFUSED - lines;
+        }
+        return lines;
     }
 
     public int image() {
@@ -545,22 +563,6 @@ public final class LoanBook {
         }
     }
 
-    /** Only for THE TAPE without a FAULT of form. */
-    private int doLines() {
-        ahead.copyFrom(book);
-        tape.place = 0;
-        int line = 0;
-        while (line < MOST_BYTES && tape.readLine()) {
-            if (doLine() < 0) {
-                book.copyFrom(ahead);
-                return LINE_REFUSED - line;
-            }
-            line++;
-            tape.place++;
-        }
-        return line;
-    }
-
     /** Below 0: the LINE that was read is refused (no call that a LINE can do answers so otherwise). */
     private long doLine() {
         int[] n = tape.numbers;
@@ -603,18 +605,23 @@ public final class LoanBook {
         }
 
         static int monthOf(int day) {
-            int inFour = day % FOUR_YEARS;
-            int year = day / FOUR_YEARS * 4 + (inFour < LEAP_YEAR ? 0 : 1 + (inFour - LEAP_YEAR) / YEAR);
-            int month = year * 12;
-            for (int i = 1; i < 12; i++) {
-                if (firstOf(year * 12 + i) <= day) {
-                    month = year * 12 + i;
+            int year = day / FOUR_YEARS * 4;
+            int inYear = day % FOUR_YEARS;
+            int leapDay = 1;
+            if (inYear >= LEAP_YEAR) {
+                year += 1 + (inYear - LEAP_YEAR) / YEAR;
+                inYear = (inYear - LEAP_YEAR) % YEAR;
+                leapDay = 0;
+            }
+            for (int i = 11; i > 0; i--) {
+                if (inYear >= DAYS_AHEAD[i] + (i >= 2 ? leapDay : 0)) {
+                    return year * 12 + i;
                 }
             }
-            return month;
+            return year * 12;
         }
 
-        /** FRACTION from d to e, in parts of which partsOfYear(count) make a year, so that no rounding comes in. */
+        /** FRACTION from d to e, in parts of a year that are whole numbers, so that no rounding comes in. */
         static long partsBetween(int count, int d, int e) {
             if (count == 0) {
                 return thirties(e) - thirties(d);
@@ -626,21 +633,10 @@ public final class LoanBook {
             return inLeapYears * YEAR + (e - d - inLeapYears) * LEAP_YEAR;
         }
 
-        static long partsOfYear(int count) {
-            switch (count) {
-                case 0:
-                case 1:
-                    return 360L;
-                case 2:
-                    return YEAR;
-                default:
-                    return (long) LEAP_YEAR * YEAR;
-            }
-        }
-
         /** Half a divisor is exact, as 10000 is even; adding it before cutting rounds half a cent up. */
         static long cents(long balanceByRate, int count, long parts) {
-            long divisor = partsOfYear(count) * 10000L;
+            long partsOfYear = count < 2 ? 360L : count == 2 ? YEAR : (long) LEAP_YEAR * YEAR;
+            long divisor = partsOfYear * 10000L;
             return (balanceByRate * parts + divisor / 2) / divisor;
         }
 
@@ -743,14 +739,11 @@ public final class LoanBook {
             return Math.min(ofBalance, Math.max(0, amount - itsInterest));
         }
 
+        /** LEVEL anew, if there is one. A higher amount never leaves a higher balance: halving finds the least. */
         void findLevel() {
-            if (kind == LEVEL && balance != 0) {
-                level = leastLevel();
+            if (kind != LEVEL || balance == 0) {
+                return;
             }
-        }
-
-        /** A higher amount never leaves a higher balance, so halving finds the least one. */
-        private long leastLevel() {
             long low = 0;
             long high = MOST_LEVEL;
             for (int i = 0; i < 28 && low < high; i++) {
@@ -761,7 +754,7 @@ public final class LoanBook {
                     low = mid + 1;
                 }
             }
-            return low;
+            level = low;
         }
 
         private boolean isRepaidBy(long amount) {

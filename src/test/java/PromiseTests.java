@@ -836,6 +836,16 @@ public final class PromiseTests {
     x.rule(0, 11);
     x.days(1);
     due("it had its FEE", x.sum(0, 3), 1000);
+    LoanBook y = new LoanBook();
+    y.loan(60000, 0, 2, 2060);
+    y.days(y.settles(0) + 9);
+    y.image();
+    y.days(1);
+    due("the FEE", y.sum(0, 3), 60500);
+    y.back();
+    due("no FEE yet", y.sum(0, 3), 60000);
+    y.days(1);
+    due("the FEE anew", y.sum(0, 3), 60500);
   }
 
   private static void thoughtByEachCount() {
