@@ -1,7 +1,7 @@
 /** Each boundary case that the document names for what is in thought: promises 14 to 24, and their terms. */
 public final class EdgesInThought extends Edges {
   public static void main(String[] args) {
-    nothingChanges();
+    nothingChanges(); oneBehindAnother();
     toComeRefused(); toComePlaces(); toComeSkips();
     comingRefused(); comingNone(); comingGreatest();
     valueRefused(); valueInside(); valueFlows();
@@ -39,6 +39,33 @@ public final class EdgesInThought extends Edges {
       long answer = calls[i].on(rich());
       refused("call " + i, Edges::rich, calls[i], answer);
     }
+  }
+
+  /** Three LOANS that differ in DONE, in PERIODS and in how much: what was thought of one is nothing to the others. */
+  private static LoanBook ofThree() {
+    LoanBook x = three(0);
+    x.days(62);
+    x.loan(100000000, 5000, 3, 2060);
+    x.loan(7, 0, 1, 1105);
+    x.days(1);
+    return x;
+  }
+
+  private static void oneBehindAnother() {
+    says("In thought (nothing changes)");
+    CallOf[] calls = {(x, loan) -> x.toCome(loan, 0, 1), (x, loan) -> x.toCome(loan, 1, 3), (x, loan) -> x.coming(loan, 0), (x, loan) -> x.coming(loan, 1), (x, loan) -> x.coming(loan, 2), (x, loan) -> x.sum(loan, 8),
+        (x, loan) -> x.value(loan, bits(0.5)), (x, loan) -> x.yieldOf(loan, 3), (x, loan) -> x.near(loan, 3), (x, loan) -> x.duration(loan, bits(0.5)), (x, loan) -> x.would(loan, 5, 5), (x, loan) -> x.would(loan, 35000, 2),
+        (x, loan) -> x.sooner(loan, 1000000), (x, loan) -> x.judge(0, loan), (x, loan) -> x.settles(loan)};
+    for (int i = 0; i < calls.length; i++) for (int loan = 0; loan < 3; loan++) for (int ahead = 0; ahead < 3; ahead++) {
+      LoanBook alone = ofThree(), behind = ofThree();
+      alone.row(0, 2);
+      behind.row(0, 2);
+      for (CallOf other : calls) other.on(behind, ahead);
+      due("call " + i + " of LOAN " + loan + " behind LOAN " + ahead, calls[i].on(behind, loan), calls[i].on(alone, loan));
+    }
+    LoanBook x = ofThree();
+    due("the greatest of LOAN 1", x.coming(1, 2) > 100000000 ? 1 : 0, 1);
+    due("behind it the greatest of LOAN 0, its last BILL", x.coming(0, 2), 34001);
   }
 
   // ---- promise 14

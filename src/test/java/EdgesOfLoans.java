@@ -11,14 +11,14 @@ public final class EdgesOfLoans extends Edges {
     levelLeast(); levelOthers();
     daysN(); daysState();
     ends(); firstAndLastPeriod(); levelPrincipal(); equalPrincipal(); bulletPrincipal(); nothingToPay(); balanceZeroAhead();
-    interestAsItIsThen(); graceDays(); graceLeastAndMost(); graceComes(); feeOnce(); feeLeastAndMost(); endsThenFees(); feeOfArrears();
-    payRefused(); payCents(); payLower(); payGivenBack();
+    interestAsItIsThen(); billBehindAll(); graceDays(); graceLeastAndMost(); graceComes(); feeOnce(); feeLeastAndMost(); endsThenFees(); feeOfArrears();
+    payRefused(); payCents(); payPrepaid(); payLower(); payGivenBack(); gotOfEach();
     resetRefused(); resetLevel();
     writeOffRefused(); writeOffCents();
     ruleRefused(); ruleInside();
     ofRefused(); ofLate(); ofEnd();
     sumRefused(); sumAtFirst(); sumOwed();
-    billRefused(); billPlaces();
+    billRefused(); billPlaces(); billToPayYet();
     end();
   }
 
@@ -547,6 +547,24 @@ public final class EdgesOfLoans extends Edges {
     due("none by RATE 0", x.bill(0, 2, 1), 0);
   }
 
+  private static void billBehindAll() {
+    says("a BILL (its day, INTEREST, PRINCIPAL, FEE 0) comes to the LOAN's ARREARS, behind all; DONE is 1 more");
+    LoanBook x = three(0);
+    long[] want = {31, 1000, 33003, 0, 60, 670, 33333, 0, 91, 337, 33664, 0};
+    for (int k = 0; k < 3; k++) {
+      goTo(x, (int) want[4 * k]);
+      due("BILLS", x.of(0, 7), k + 1);
+      due("DONE", x.of(0, 6), k + 1);
+      for (int what = 0; what < 4; what++) due("the last, " + what, x.bill(0, k, what), want[4 * k + what]);
+      due("the first", x.bill(0, 0, 0), 31);
+    }
+    LoanBook paid = three(0);
+    paid.days(31);
+    paid.pay(0, 34003);
+    paid.days(29);
+    due("behind none: the first", paid.bill(0, 0, 0), 60);
+  }
+
   private static void graceDays() {
     says("GRACE: 10 days (0 .. 90): a BILL in ARREARS that is as many days old as GRACE (DAY comes to that)");
     for (int grace : new int[] {10, 0, 1, 29, 89, 90}) {
@@ -721,6 +739,36 @@ public final class EdgesOfLoans extends Edges {
     x.pay(0, 34503);
     due("the second is the first now", x.bill(0, 0, 0), 60);
     due("no second", x.bill(0, 1, 0), NOT);
+  }
+
+  private static void payPrepaid() {
+    says("What is left goes to BALANCE, as far as that goes (PREPAID)");
+    for (int kind : new int[] {0, 100, 1000, 1100, 2000, 2100}) {
+      LoanBook x = three(kind);
+      x.days(31);
+      long owed = x.sum(0, 3), balance = x.sum(0, 1);
+      due("ARREARS but a cent", x.pay(0, owed - 1), 0);
+      due("BALANCE", x.sum(0, 1), balance);
+      due("the cent and one of BALANCE", x.pay(0, 2), 0);
+      due("BALANCE", x.sum(0, 1), balance - 1);
+      due("all the rest", x.pay(0, balance - 1), 0);
+      due("BALANCE", x.sum(0, 1), 0);
+    }
+  }
+
+  private static void gotOfEach() {
+    says("GOT: FEES, INTEREST, PRINCIPAL (with PREPAID) that were paid, of each LOAN; LOST: PRINCIPAL written off.");
+    LoanBook x = new LoanBook();
+    for (int i = 0; i < 8; i++) x.loan(100000, 1200, 0, 3);
+    x.days(41);
+    for (int i = 0; i < 8; i++) x.pay(i, 1500 + 33003 + i);
+    x.writeOff(7);
+    for (int i = 0; i < 8; i++) {
+      due("FEES of LOAN " + i, x.sum(i, 4), 500);
+      due("INTEREST of LOAN " + i, x.sum(i, 5), 1000);
+      due("PRINCIPAL of LOAN " + i, x.sum(i, 6), 33003 + i);
+      due("LOST of LOAN " + i, x.sum(i, 7), i < 7 ? 0 : 66997 - 7);
+    }
   }
 
   private static void payLower() {
@@ -993,5 +1041,21 @@ public final class EdgesOfLoans extends Edges {
     due("no second", x.bill(0, 1, 0), NOT);
     x.pay(0, 1000);
     due("none is left", x.bill(0, 0, 0), NOT);
+  }
+
+  private static void billToPayYet() {
+    says("as they are to pay yet");
+    LoanBook x = three(0);
+    x.days(41);
+    long[][] steps = {{499, 1, 1000, 33003}, {1, 0, 1000, 33003}, {999, 0, 1, 33003}, {1, 0, 0, 33003}, {33002, 0, 0, 1}};
+    for (long[] s : steps) {
+      x.pay(0, s[0]);
+      due("FEE", x.bill(0, 0, 3), s[1]);
+      due("INTEREST", x.bill(0, 0, 1), s[2]);
+      due("PRINCIPAL", x.bill(0, 0, 2), s[3]);
+      due("its day", x.bill(0, 0, 0), 31);
+    }
+    x.pay(0, 1);
+    due("no more", x.bill(0, 0, 0), NOT);
   }
 }

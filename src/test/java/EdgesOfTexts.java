@@ -1,6 +1,7 @@
 /** Each boundary case that the document names for texts, images and holders: promises 25 to 33, and their terms. */
 public final class EdgesOfTexts extends Edges {
   public static void main(String[] args) {
+    holdersAtFirst(); ownMemory();
     feedRefused(); feedFull(); feedFirst();
     scriptEmpty(); scriptEarly(); scriptEveryByte(); scriptDigits(); scriptLength(); scriptFaultChangesNothing();
     scriptInside(); scriptRefused(); scriptRefusedState(); scriptNumbers(); scriptTapeIsEmpty(); scriptLoanAnew();
@@ -15,6 +16,33 @@ public final class EdgesOfTexts extends Edges {
   }
 
   private static final String MOST_LINES = "d 1;".repeat(29) + "d 1", MOST_BYTES = "d 01;" + "d 1;".repeat(28) + "d 1";
+
+  private static void holdersAtFirst() {
+    says("HOLDERS 0 .. 5 hold nothing (at first)");
+    LoanBook x = three(0);
+    for (int h = 0; h < 6; h++) {
+      for (int as = 0; as < 4; as++) due("tells " + h + " as " + as, x.tells(h, as), NOTHING);
+      due("put " + h, x.put(h, 0, 1), NOTHING);
+      due("judge " + h, x.judge(h, 0), NOTHING);
+      due("no HOLDER holds", x.count(7), 0);
+    }
+    for (int h : new int[] {-1, 6}) due("no HOLDER " + h, x.tells(h, 0), BAD);
+  }
+
+  private static void ownMemory() {
+    says("All memory is the class's own.");
+    LoanBook one = rich(), other = new LoanBook();
+    for (int what = 0; what < 8; what++) due("a new object behind another: count " + what, other.count(what), what == 3 ? 10 : what == 4 ? 500 : 0);
+    due("no IMAGE of the other", other.back(), STATE);
+    other.loan(5, 5, 0, 5);
+    other.image();
+    other.rule(0, 1);
+    other.days(400);
+    other.row(2, 60);
+    feed(other, "d 9;d 9");
+    other.script();
+    alike("the other one", one, rich());
+  }
 
   // ---- promise 25
 

